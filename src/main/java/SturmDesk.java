@@ -44,20 +44,24 @@ public final class SturmDesk {
 
     public int roots(int polynomial) throws IllegalArgumentException, IllegalStateException {
         checkPolynomial(polynomial);
-        return prepared(polynomial).count;
+        Held held = some(polynomial);
+        held.prepare(bench);
+        return held.count;
     }
 
     public int repeated(int polynomial) throws IllegalArgumentException, IllegalStateException {
         checkPolynomial(polynomial);
-        return prepared(polynomial).shared;
+        Held held = some(polynomial);
+        held.prepare(bench);
+        return held.shared;
     }
 
     public int sign(int polynomial, long a, int e) throws IllegalArgumentException, IllegalStateException {
         checkPolynomial(polynomial);
         checkExponent(e);
-        checkSome(polynomial);
+        Held held = some(polynomial);
         bench.point.placeLong(a, e);
-        return bench.valueAt(desk[polynomial].source, bench.point).sgn;
+        return bench.valueAt(held.source, bench.point).sgn;
     }
 
     public int between(int polynomial, long a, int e, long b, int f)
@@ -65,7 +69,8 @@ public final class SturmDesk {
         checkPolynomial(polynomial);
         checkExponent(e);
         checkExponent(f);
-        Held held = prepared(polynomial);
+        Held held = some(polynomial);
+        held.prepare(bench);
         bench.point.placeLong(a, e);
         int first = held.countUpTo(bench.point, bench);
         bench.point.placeLong(b, f);
@@ -77,7 +82,8 @@ public final class SturmDesk {
     public int multiple(int polynomial, int i)
             throws IllegalArgumentException, IllegalStateException, NoSuchElementException {
         checkPolynomial(polynomial);
-        Held held = prepared(polynomial);
+        Held held = some(polynomial);
+        held.prepare(bench);
         checkRoot(held, i);
         if (held.shared == 0) {
             return 1;
@@ -90,7 +96,8 @@ public final class SturmDesk {
             throws IllegalArgumentException, IllegalStateException, NoSuchElementException {
         checkPolynomial(polynomial);
         checkExponent(e);
-        Held held = prepared(polynomial);
+        Held held = some(polynomial);
+        held.prepare(bench);
         checkRoot(held, i);
         bench.point.placeLong(a, e);
         return held.sideOf(i, bench.point, bench);
@@ -102,16 +109,20 @@ public final class SturmDesk {
         if (n < 0 || n > (ten ? MOST_TEN : MOST_TWO)) {
             throw new IllegalArgumentException("no such count of digits");
         }
-        Held held = prepared(polynomial);
+        Held held = some(polynomial);
+        held.prepare(bench);
         checkRoot(held, i);
         held.isolate(i, bench);
+        // For tens so narrow that at most one whole number of 10 to the n-ths lies in the cell.
+        held.refine(i, ten ? n * 10 / 3 + 8 : n, bench);
         Num whole = ten ? held.floorTen(i, n, bench) : held.floorTwo(i, n, bench);
         return text.write(whole);
     }
 
     public int apart(int polynomial) throws IllegalArgumentException, IllegalStateException {
         checkPolynomial(polynomial);
-        Held held = prepared(polynomial);
+        Held held = some(polynomial);
+        held.prepare(bench);
         int most = 0;
         for (int i = 0; i < held.count; i++) {
             held.isolate(i, bench);
@@ -123,9 +134,10 @@ public final class SturmDesk {
     }
 
     public int order(int i, int j) throws IllegalStateException, NoSuchElementException {
-        checkBoth();
-        Held zero = prepared(0);
-        Held one = prepared(1);
+        Held zero = some(0);
+        Held one = some(1);
+        zero.prepare(bench);
+        one.prepare(bench);
         checkRoot(zero, i);
         checkRoot(one, j);
         zero.isolate(i, bench);
@@ -136,16 +148,20 @@ public final class SturmDesk {
     public int signAt(int polynomial, int i)
             throws IllegalArgumentException, IllegalStateException, NoSuchElementException {
         checkPolynomial(polynomial);
-        checkBoth();
-        Held held = prepared(polynomial);
+        Held held = some(polynomial);
+        Held other = some(1 - polynomial);
+        held.prepare(bench);
         checkRoot(held, i);
         held.isolate(i, bench);
-        return query.signOn(held, held.root[i], desk[1 - polynomial].source, bench);
+        return query.signOn(held, held.root[i], other.source, bench);
     }
 
     public int common() throws IllegalStateException {
-        checkBoth();
-        return query.countShared(prepared(0), prepared(1), bench);
+        Held zero = some(0);
+        Held one = some(1);
+        zero.prepare(bench);
+        one.prepare(bench);
+        return query.countShared(zero, one, bench);
     }
 
     public long out(int k) throws NoSuchElementException {
@@ -167,28 +183,19 @@ public final class SturmDesk {
         }
     }
 
-    private void checkSome(int polynomial) {
-        if (desk[polynomial].source.deg < 0) {
+    /** The polynomial, which must not be none. */
+    private Held some(int polynomial) {
+        Held held = desk[polynomial];
+        if (held.source.deg < 0) {
             throw new IllegalStateException("the polynomial is none");
         }
-    }
-
-    private void checkBoth() {
-        checkSome(0);
-        checkSome(1);
+        return held;
     }
 
     private void checkRoot(Held held, int i) {
         if (i < 0 || i >= held.count) {
             throw new NoSuchElementException("no such root");
         }
-    }
-
-    private Held prepared(int polynomial) {
-        checkSome(polynomial);
-        Held held = desk[polynomial];
-        held.prepare(bench);
-        return held;
     }
 
     /**
@@ -219,13 +226,9 @@ public final class SturmDesk {
         }
 
         void copy(Num b) {
-            if (b.len > limb.length) {
-                clear();
-                return;
-            }
-            System.arraycopy(b.limb, 0, limb, 0, b.len);
-            len = b.len;
-            sgn = b.sgn;
+            len = b.len <= limb.length ? b.len : 0;
+            sgn = len == 0 ? 0 : b.sgn;
+            System.arraycopy(b.limb, 0, limb, 0, len);
         }
 
         void setLong(long v) {
@@ -276,8 +279,8 @@ public final class SturmDesk {
                 if (cmp == 0) {
                     clear();
                 } else {
-                    subtractMagnitude(b, cmp);
                     sgn = cmp > 0 ? sgn : other;
+                    subtractMagnitude(b, cmp);
                 }
             }
         }
@@ -320,7 +323,7 @@ public final class SturmDesk {
             trim();
         }
 
-        private void trim() {
+        void trim() {
             while (len > 0 && limb[len - 1] == 0) {
                 len--;
             }
@@ -333,44 +336,33 @@ public final class SturmDesk {
         void step(int by) {
             if (sgn == 0) {
                 setLong(by);
-            } else if (sgn == by) {
-                raiseMagnitude();
-            } else {
-                boolean more = true;
-                for (int k = 0; k < len && more; k++) {
-                    more = limb[k] == 0;
-                    limb[k] = (limb[k] - 1) & MASK;
-                }
-                trim();
+                return;
             }
-        }
-
-        private void raiseMagnitude() {
+            boolean up = sgn == by;
             boolean more = true;
             for (int k = 0; k < len && more; k++) {
-                more = limb[k] == MASK;
-                limb[k] = (limb[k] + 1) & MASK;
+                more = limb[k] == (up ? MASK : 0);
+                limb[k] = (limb[k] + (up ? 1 : -1)) & MASK;
             }
-            if (more) {
-                if (len >= limb.length) {
-                    clear();
-                    return;
-                }
+            if (up && more && len < limb.length) {
                 limb[len] = 1;
                 len++;
             }
+            trim();
         }
 
         /** Times 2 to the by, rounded down when by is below 0. */
         void move(int by) {
+            boolean below = sgn < 0;
             if (by >= 0) {
-                shiftLeft(by);
-            } else {
-                shiftDown(-by);
+                shiftUp(by);
+            } else if (shiftDown(-by) && below) {
+                step(-1);
             }
         }
 
-        private void shiftLeft(int by) {
+        /** Times 2 to the by. */
+        void shiftUp(int by) {
             if (len == 0 || by <= 0) {
                 return;
             }
@@ -391,9 +383,10 @@ public final class SturmDesk {
             trim();
         }
 
-        private void shiftDown(int by) {
+        /** Over 2 to the by, rounded toward 0; answers whether something was cut off. */
+        boolean shiftDown(int by) {
             if (len == 0 || by <= 0) {
-                return;
+                return false;
             }
             int whole = Math.min(by / BITS, len);
             int part = by % BITS;
@@ -404,7 +397,6 @@ public final class SturmDesk {
             if (whole < len) {
                 lost = lost || (limb[whole] & ((1 << part) - 1)) != 0;
             }
-            boolean below = sgn < 0;
             for (int k = whole; k < len; k++) {
                 long high = k + 1 < len ? limb[k + 1] : 0;
                 long both = (high << BITS) | limb[k];
@@ -412,9 +404,7 @@ public final class SturmDesk {
             }
             len = len - whole;
             trim();
-            if (below && lost) {
-                step(-1);
-            }
+            return lost;
         }
 
         /** Becomes a times b; it is neither of both. */
@@ -500,13 +490,16 @@ public final class SturmDesk {
                 return;
             }
             if (b.len == 1) {
-                divideByLimb(a, b);
+                quotient.copy(a);
+                int left = quotient.divideSmall(b.limb[0]);
+                quotient.sgn = quotient.sgn * b.sgn;
+                rest.setLong(a.sgn < 0 ? -(long) left : left);
                 return;
             }
             int shift = Num.BITS * b.len - b.bitLength();
             moved.copy(b);
-            moved.move(shift);
-            rest.move(shift);
+            moved.shiftUp(shift);
+            rest.shiftUp(shift);
             if (moved.len < 2 || rest.len < moved.len || rest.len >= Num.WIDE) {
                 return;
             }
@@ -520,15 +513,7 @@ public final class SturmDesk {
             quotient.trim();
             rest.len = moved.len;
             rest.trim();
-            // The bits that fall out are 0, so this never rounds.
-            rest.move(-shift);
-        }
-
-        private void divideByLimb(Num a, Num b) {
-            quotient.copy(a);
-            int left = quotient.divideSmall(b.limb[0]);
-            rest.setLong(a.sgn < 0 ? -(long) left : left);
-            quotient.sgn = quotient.len == 0 ? 0 : a.sgn * b.sgn;
+            rest.shiftDown(shift);
         }
 
         private int takeDigit(int j) {
@@ -654,7 +639,7 @@ public final class SturmDesk {
             over.copy(n);
             exp = Math.max(0, level);
             if (level < 0) {
-                over.move(-level);
+                over.shiftUp(-level);
             }
         }
     }
@@ -667,6 +652,12 @@ public final class SturmDesk {
         final Num power;
         final Num lower;
         final Num upper;
+        final Num guess;
+        final Num tens;
+        final Num scale;
+        final Num height;
+        final Num share;
+        final Num spare;
         final Point point;
         final Divider divider;
         final Poly rest;
@@ -679,6 +670,12 @@ public final class SturmDesk {
             power = new Num(true);
             lower = new Num(true);
             upper = new Num(true);
+            guess = new Num(true);
+            tens = new Num(true);
+            scale = new Num(true);
+            height = new Num(true);
+            share = new Num(true);
+            spare = new Num(true);
             point = new Point();
             divider = new Divider();
             rest = new Poly(Chain.HEAD, true);
@@ -693,7 +690,7 @@ public final class SturmDesk {
             for (int k = p.deg; k >= 0; k--) {
                 next.setProduct(now, x.over);
                 term.copy(p.c[k]);
-                term.move(x.exp * (p.deg - k));
+                term.shiftUp(x.exp * (p.deg - k));
                 next.add(term, 1);
                 Num swap = now;
                 now = next;
@@ -752,11 +749,10 @@ public final class SturmDesk {
             quotient.lower(gap);
         }
 
-        /** The number becomes 10 to the n. */
-        void setTens(Num number, int n) {
-            number.setLong(1);
+        void setTens(int n) {
+            tens.setLong(1);
             for (int k = 0; k < n; k++) {
-                number.times(10);
+                tens.times(10);
             }
         }
     }
@@ -773,39 +769,30 @@ public final class SturmDesk {
         final Poly[] link;
         int length;
         int headSign;
-        final Num scale;
-        final Num height;
-        final Num share;
-        final Num spare;
 
         Chain(int head) {
             link = new Poly[LINKS];
             for (int k = 0; k < LINKS; k++) {
-                link[k] = new Poly(k == 0 ? head : COEFFICIENTS, false);
+                // The second link has a degree of at most 8, and each one behind it a lower one.
+                link[k] = new Poly(k == 0 ? head : LINKS - k, false);
             }
-            scale = new Num(true);
-            height = new Num(true);
-            share = new Num(true);
-            spare = new Num(true);
         }
 
         Poly last() {
-            return link[length - 1];
+            return link[Math.max(0, length - 1)];
         }
 
-        /** Makes a chain from p and its derivative. */
-        void buildFrom(Poly p, Bench bench) {
-            link[0].copy(p);
-            link[1].copy(p);
+        /** The second link becomes the derivative of the first. */
+        void deriveHead() {
+            link[1].copy(link[0]);
             link[1].derive();
-            build(bench);
         }
 
         /** Makes the chain from its first two links, the second not of a higher degree. */
         void build(Bench bench) {
             length = link[1].deg < 0 ? 1 : 2;
-            scale.setLong(1);
-            height.setLong(1);
+            bench.scale.setLong(1);
+            bench.height.setLong(1);
             while (length > 1 && length < LINKS && link[length - 1].deg > 0) {
                 Poly u = link[length - 2];
                 Poly v = link[length - 1];
@@ -816,8 +803,8 @@ public final class SturmDesk {
                 }
                 keepRest(link[length], gap, bench);
                 length++;
-                scale.copy(v.c[v.deg]);
-                scale.sgn = 1;
+                bench.scale.copy(v.c[v.deg]);
+                bench.scale.sgn = Math.abs(bench.scale.sgn);
                 raiseHeight(gap, bench);
             }
         }
@@ -845,13 +832,13 @@ public final class SturmDesk {
 
         /** The next link becomes the rest, turned, over scale times height to the gap. */
         private void keepRest(Poly next, int gap, Bench bench) {
-            share.copy(scale);
+            bench.share.copy(bench.scale);
             for (int k = 0; k < gap; k++) {
-                spare.setProduct(share, height);
-                share.copy(spare);
+                bench.spare.setProduct(bench.share, bench.height);
+                bench.share.copy(bench.spare);
             }
             for (int k = 0; k <= bench.rest.deg && k < next.c.length; k++) {
-                bench.divider.divide(bench.rest.c[k], share);
+                bench.divider.divide(bench.rest.c[k], bench.share);
                 next.c[k].copy(bench.divider.quotient);
                 next.c[k].sgn = -next.c[k].sgn;
             }
@@ -863,13 +850,13 @@ public final class SturmDesk {
             if (gap == 0) {
                 return;
             }
-            share.copy(scale);
+            bench.share.copy(bench.scale);
             for (int k = 1; k < gap; k++) {
-                spare.setProduct(share, scale);
-                bench.divider.divide(spare, height);
-                share.copy(bench.divider.quotient);
+                bench.spare.setProduct(bench.share, bench.scale);
+                bench.divider.divide(bench.spare, bench.height);
+                bench.share.copy(bench.divider.quotient);
             }
-            height.copy(share);
+            bench.height.copy(bench.share);
         }
 
         /** How often the sign changes along the chain at the point; links that are 0 do not count. */
@@ -954,15 +941,15 @@ public final class SturmDesk {
 
         /** The upper half's low end. */
         void toMiddle(Point x) {
-            at.move(1);
+            at.shiftUp(1);
             at.step(1);
             x.place(at, level + 1);
             at.step(-1);
-            at.move(-1);
+            at.shiftDown(1);
         }
 
         void halve(boolean upper) {
-            at.move(1);
+            at.shiftUp(1);
             if (upper) {
                 at.step(1);
             }
@@ -1011,16 +998,14 @@ public final class SturmDesk {
             if (ready) {
                 return;
             }
-            chain.buildFrom(source, bench);
+            chain.link[0].copy(source);
+            chain.deriveHead();
+            chain.build(bench);
             shared = Math.max(0, chain.last().deg);
-            if (source.deg == 0) {
-                shared = 0;
-            }
             if (shared > 0) {
                 bench.setDivisor(chain.last());
                 bench.divideByDivisor(source, chain.link[0]);
-                chain.link[1].copy(chain.link[0]);
-                chain.link[1].derive();
+                chain.deriveHead();
                 chain.build(bench);
             }
             start = chain.changesFar(-1);
@@ -1051,7 +1036,7 @@ public final class SturmDesk {
         }
 
         int sideOf(int i, Point x, Bench bench) {
-            int upTo = countUpTo(x, bench);
+            int upTo = start - chain.changesAt(x, bench);
             int below = chain.headSign == 0 ? upTo - 1 : upTo;
             if (i < below) {
                 return -1;
@@ -1067,7 +1052,7 @@ public final class SturmDesk {
             }
             Point x = bench.point;
             x.placeLong(0, 0);
-            int upTo = countUpTo(x, bench);
+            int upTo = start - chain.changesAt(x, bench);
             int below = chain.headSign == 0 ? upTo - 1 : upTo;
             r.at.setLong(i < below ? -1 : 0);
             r.level = -reach;
@@ -1075,7 +1060,7 @@ public final class SturmDesk {
             int high = i < below ? upTo : count;
             for (int t = 0; t < MOST_HALVINGS && high - low > 1; t++) {
                 r.toMiddle(x);
-                upTo = countUpTo(x, bench);
+                upTo = start - chain.changesAt(x, bench);
                 below = chain.headSign == 0 ? upTo - 1 : upTo;
                 r.halve(i >= below);
                 if (i < below) {
@@ -1090,41 +1075,106 @@ public final class SturmDesk {
             r.found = true;
         }
 
-        /** Narrows the cell to the level, unless the root is its low end. */
-        void refine(Root r, int level, Bench bench) {
-            Point x = bench.point;
+        /**
+         * Narrows the cell to the level, unless the root is its low end. A leap that comes off makes
+         * the next one twice as wide, one that fails half as wide, down to halving.
+         */
+        void refine(int i, int level, Bench bench) {
+            Root r = root[i];
+            int width = 1;
             for (int t = 0; t < MOST_HALVINGS && !r.exact && r.level < level; t++) {
-                r.toMiddle(x);
-                int now = bench.valueAt(chain.link[0], x).sgn;
-                r.halve(now == 0 || now == r.lowSign);
-                r.exact = now == 0;
+                int now = Math.min(width, level - r.level);
+                if (now == 1) {
+                    halveAtMiddle(r, bench);
+                    width = Math.max(width, 2);
+                } else if (leap(r, now, bench)) {
+                    width = now * 2;
+                } else {
+                    width = now / 2;
+                }
             }
         }
 
+        private void halveAtMiddle(Root r, Bench bench) {
+            Point x = bench.point;
+            r.toMiddle(x);
+            int now = bench.valueAt(chain.link[0], x).sgn;
+            r.halve(now == 0 || now == r.lowSign);
+            r.exact = now == 0;
+        }
+
+        /**
+         * Tries to narrow the cell by width levels at once: looks at both cells beside the point
+         * where the straight line through the values at the cell's ends is 0.
+         */
+        private boolean leap(Root r, int width, Bench bench) {
+            Poly q = chain.link[0];
+            Point x = bench.point;
+            guessOnLine(r, width, bench);
+            Num guess = bench.guess;
+            int level = r.level + width;
+            x.place(guess, level);
+            int first = bench.valueAt(q, x).sgn;
+            int second = 0;
+            if (first != 0) {
+                guess.step(first == r.lowSign ? 1 : -1);
+                x.place(guess, level);
+                second = bench.valueAt(q, x).sgn;
+            }
+            if (first != 0 && second == first) {
+                return false;
+            }
+            if (second != 0 && first == r.lowSign) {
+                guess.step(-1);
+            }
+            r.at.copy(guess);
+            r.level = level;
+            r.exact = second == 0;
+            return true;
+        }
+
+        /** The guess becomes the number, width levels down, of the point where the line is 0. */
+        private void guessOnLine(Root r, int width, Bench bench) {
+            Point x = bench.point;
+            r.toLow(x);
+            bench.lower.copy(bench.valueAt(chain.link[0], x));
+            r.toHigh(x);
+            bench.upper.copy(bench.valueAt(chain.link[0], x));
+            bench.upper.add(bench.lower, -1);
+            // Both ends have different signs: the gap's magnitude is the sum of theirs.
+            bench.upper.sgn = Math.abs(bench.upper.sgn);
+            bench.lower.sgn = Math.abs(bench.lower.sgn);
+            bench.lower.shiftUp(width + 1);
+            bench.lower.add(bench.upper, 1);
+            bench.upper.shiftUp(1);
+            bench.divider.divide(bench.lower, bench.upper);
+            bench.guess.copy(r.at);
+            bench.guess.shiftUp(width);
+            bench.guess.add(bench.divider.quotient, 1);
+        }
+
+        /** The whole number not above root i times 2 to the n; the cell is of level n or narrower. */
         Num floorTwo(int i, int n, Bench bench) {
             Root r = root[i];
-            refine(r, n, bench);
             bench.lower.copy(r.at);
             bench.lower.move(n - r.level);
             return bench.lower;
         }
 
+        /** The whole number not above root i times 10 to the n. */
         Num floorTen(int i, int n, Bench bench) {
             Root r = root[i];
-            // So narrow that at most one whole number of 10 to the n-ths lies inside.
-            refine(r, n * 10 / 3 + 8, bench);
-            Num tens = bench.divider.moved;
-            bench.setTens(tens, n);
-            bench.lower.setProduct(r.at, tens);
+            bench.setTens(n);
+            bench.lower.setProduct(r.at, bench.tens);
             bench.upper.copy(bench.lower);
-            bench.upper.add(tens, 1);
+            bench.upper.add(bench.tens, 1);
             bench.upper.step(-1);
             bench.lower.move(-r.level);
             bench.upper.move(-r.level);
             if (r.exact || bench.lower.same(bench.upper)) {
                 return bench.lower;
             }
-            int now = bench.signAtFraction(chain.link[0], bench.upper, tens);
+            int now = bench.signAtFraction(chain.link[0], bench.upper, bench.tens);
             return now == 0 || now == r.lowSign ? bench.upper : bench.lower;
         }
 
@@ -1240,7 +1290,9 @@ public final class SturmDesk {
                 return 0;
             }
             bench.setDivisor(chain.last());
-            chain.buildFrom(bench.divisor, bench);
+            chain.link[0].copy(bench.divisor);
+            chain.deriveHead();
+            chain.build(bench);
             return chain.realRoots();
         }
     }

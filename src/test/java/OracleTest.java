@@ -4,7 +4,7 @@ import java.util.Random;
 
 /** Runs of calls on many kinds of polynomials, each answer compared with the oracle's. */
 public final class OracleTest {
-    private static final int KINDS = 9;
+    private static final int KINDS = 10;
     private static final Check CHECK = new Check();
 
     private static Random random;
@@ -58,6 +58,7 @@ public final class OracleTest {
             case 5: return close(3 + random.nextInt(6));
             case 6: return ends();
             case 7: return oneRoot();
+            case 8: return closest();
             default: return powers();
         }
     }
@@ -126,6 +127,20 @@ public final class OracleTest {
                 int swap = c[k];
                 c[k] = c[d - k];
                 c[d - k] = swap;
+            }
+        }
+        return c;
+    }
+
+    /** Two roots as near as degree 8 is known to bring them: (x^4 - ax + 1)^2 - 2 x^6 (ax - 1)^2. */
+    private static int[] closest() {
+        int a = 2 + random.nextInt(random.nextBoolean() ? 40 : 32760);
+        int[] c = {1, -2 * a, a * a, 0, 2, -2 * a, -2, 4 * a, 1 - 2 * a * a};
+        if (random.nextBoolean()) {
+            for (int k = 0; k < 4; k++) {
+                int swap = c[k];
+                c[k] = c[8 - k];
+                c[8 - k] = swap;
             }
         }
         return c;
