@@ -374,6 +374,12 @@ public final class PromisesTest {
         CHECK.due("order of 3/2 and a double 3/2", x.order(0, 0), 0);
         set(x, 1, 0, 0, 0, 0, 0, 0, 0, 0, 1);
         CHECK.due("order of 3/2 and 0", x.order(0, 0), 1);
+        set(x, 0, 0, 1);
+        CHECK.due("order of 0 and 0", x.order(0, 0), 0);
+        set(x, 1, -2, 0, 1);
+        CHECK.due("order of 0 and the lower root of 2", x.order(0, 0), 1);
+        CHECK.due("order of 0 and the upper root of 2", x.order(0, 1), -1);
+        set(x, 1, -1, 1);
         CHECK.dueThrow("order root 1 of 0", ELEMENT, () -> x.order(1, 0));
         CHECK.dueThrow("order root 1 of 1", ELEMENT, () -> x.order(0, 1));
         CHECK.dueThrow("order root -1 of 0", ELEMENT, () -> x.order(-1, 0));
