@@ -5,10 +5,12 @@ import java.util.Random;
 /** Runs of calls on many kinds of polynomials, each answer compared with the oracle's. */
 public final class OracleTest {
     private static final int KINDS = 10;
+    private static final int MOST_CALLS = 512;
     private static final Check CHECK = new Check();
 
     private static Random random;
     private static SturmDesk x;
+    private static int calls;
     private static final int[][] C = new int[2][9];
     private static final Oracle[] ORACLE = new Oracle[2];
 
@@ -18,6 +20,7 @@ public final class OracleTest {
         for (int run = 0; run < runs && !CHECK.failed(); run++) {
             random = new Random(seed * 1000003 + run);
             x = new SturmDesk();
+            calls = 0;
             // Several polynomials one after another on one desk: nothing may stay from earlier ones.
             for (int turn = 0; turn < 3 && !CHECK.failed(); turn++) {
                 choose(run + turn);
@@ -39,6 +42,7 @@ public final class OracleTest {
     }
 
     private static void load(int polynomial, int[] c) {
+        spend(9);
         BigInteger[] big = new BigInteger[9];
         for (int k = 0; k < 9; k++) {
             x.put(polynomial, k, c[k]);
@@ -46,6 +50,19 @@ public final class OracleTest {
             big[k] = BigInteger.valueOf(c[k]);
         }
         ORACLE[polynomial] = new Oracle(big);
+    }
+
+    /** A new desk with the same polynomials when the next calls would be too many for this one. */
+    private static void spend(int next) {
+        calls += next;
+        if (calls > MOST_CALLS) {
+            x = new SturmDesk();
+            for (int k = 0; k < 9; k++) {
+                x.put(0, k, C[0][k]);
+                x.put(1, k, C[1][k]);
+            }
+            calls = 18 + next;
+        }
     }
 
     private static int[] some(int kind) {
@@ -204,6 +221,7 @@ public final class OracleTest {
     }
 
     private static void compareAll() {
+        spend(2);
         for (int p = 0; p < 2; p++) {
             Oracle o = ORACLE[p];
             CHECK.due("degree(" + p + ")", x.degree(p), o.degree());
@@ -217,6 +235,7 @@ public final class OracleTest {
     }
 
     private static void compareOne(int p, Oracle o) {
+        spend(10);
         CHECK.due("roots(" + p + ")", x.roots(p), o.roots());
         CHECK.due("repeated(" + p + ")", x.repeated(p), o.repeated());
         for (int t = 0; t < 3; t++) {
@@ -250,6 +269,8 @@ public final class OracleTest {
     }
 
     private static void compareRoot(int p, int i, Oracle o) {
+        // Seven answers, and five floors with the bytes of at most 101 each.
+        spend(7 + 5 * 14);
         CHECK.due("multiple(" + p + ", " + i + ")", x.multiple(p, i), o.multiple(i));
         int e = random.nextInt(63);
         BigInteger near = o.floor(i, false, e);
@@ -283,6 +304,7 @@ public final class OracleTest {
     }
 
     private static void compareBoth() {
+        spend(1 + 16 + 64);
         CHECK.due("common()", x.common(), Oracle.common(ORACLE[0], ORACLE[1]));
         for (int p = 0; p < 2; p++) {
             for (int i = 0; i < ORACLE[p].roots(); i++) {

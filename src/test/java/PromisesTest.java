@@ -33,36 +33,20 @@ public final class PromisesTest {
 
     /** A desk with the coefficients, lowest first, of polynomials 0 and 1. */
     private static SturmDesk desk(int[] zero, int... one) {
-        SturmDesk x = new SturmDesk();
-        set(x, 0, zero);
-        set(x, 1, one);
-        return x;
+        return Desks.both(zero, one);
     }
 
     private static void set(SturmDesk x, int polynomial, int... c) {
-        for (int k = 0; k < 9; k++) {
-            x.put(polynomial, k, k < c.length ? c[k] : 0);
-        }
+        Desks.set(x, polynomial, c);
     }
 
     private static int[] p(int... c) {
         return c;
     }
 
-    private static String text(SturmDesk x, int length) {
-        StringBuilder all = new StringBuilder();
-        for (int k = 0; k < length; k++) {
-            all.append((char) (x.out(k) & 255));
-        }
-        return all.toString();
-    }
-
     private static void dueFloor(SturmDesk x, int polynomial, int i, boolean ten, int n, String want) {
-        int length = x.floor(polynomial, i, ten, n);
         String call = "floor(" + polynomial + ", " + i + ", " + ten + ", " + n + ")";
-        CHECK.due(call, length, want.length());
-        CHECK.dueText(call, text(x, length), want);
-        CHECK.dueThrow("out behind " + call, ELEMENT, () -> x.out(length));
+        CHECK.dueText(call, Desks.floor(x, polynomial, i, ten, n), want);
     }
 
     private static void newObject() {
