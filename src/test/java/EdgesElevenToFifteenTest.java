@@ -23,16 +23,19 @@ public final class EdgesElevenToFifteenTest {
         orderAbove();
         orderOfNearRoots();
         orderOfAll();
+        orderAfterFloors();
         signAtOfConstants();
         signAtIsZero();
         signAtOfNearRoots();
         signAtIsTheOthers();
         signAtWide();
+        signAtAfterFloors();
         commonNone();
         commonAll();
         commonOnce();
         commonUnreal();
         commonNear();
+        commonWithGaps();
         outLowestFirst();
         outBehindItsEnd();
         outOfShorterText();
@@ -256,6 +259,32 @@ public final class EdgesElevenToFifteenTest {
         }
     }
 
+    private static void orderAfterFloors() {
+        CHECK.sentence("12: lies below .., is it, lies above it (whatever was asked before)");
+        for (int n = 0; n <= 12; n++) {
+            SturmDesk x = halves();
+            askFloors(x, n);
+            CHECK.due("-5 / 8 and 1 / 3 after floors up to " + n, x.order(0, 0), -1);
+            CHECK.due("1 / 2 and 1 / 3 after floors up to " + n, x.order(1, 0), 1);
+            CHECK.due("1 / 2 and 1 / 2 after floors up to " + n, x.order(1, 1), 0);
+            CHECK.due("-5 / 8 and 1 / 2 after floors up to " + n, x.order(0, 1), -1);
+        }
+    }
+
+    /** Roots -5 / 8 and 1 / 2, and 1 / 3 and 1 / 2. */
+    private static SturmDesk halves() {
+        return Desks.both(Desks.product(Desks.p(-1, 2), Desks.p(5, 8)), Desks.product(Desks.p(-1, 3), Desks.p(-1, 2)));
+    }
+
+    private static void askFloors(SturmDesk x, int most) {
+        for (int n = 0; n <= most; n++) {
+            for (int i = 0; i < 2; i++) {
+                x.floor(0, i, false, n);
+                x.floor(1, i, false, n);
+            }
+        }
+    }
+
     private static void signAtOfConstants() {
         CHECK.sentence("13: The sign of the other polynomial's value (a constant's)");
         int[] values = {Desks.LOW, -1, 1, Desks.HIGH};
@@ -323,6 +352,19 @@ public final class EdgesElevenToFifteenTest {
         CHECK.due("x + 1 at the root just above -1", x.signAt(0, 0), 1);
     }
 
+    private static void signAtAfterFloors() {
+        CHECK.sentence("13: The sign of the other polynomial's value at root i (whatever was asked before)");
+        for (int n = 0; n <= 12; n++) {
+            SturmDesk x = halves();
+            askFloors(x, n);
+            CHECK.due("at -5 / 8 after floors up to " + n, x.signAt(0, 0), 1);
+            CHECK.due("at 1 / 2 after floors up to " + n, x.signAt(0, 1), 0);
+            CHECK.due("at 1 / 3 after floors up to " + n, x.signAt(1, 0), -1);
+            x.put(1, 0, -1);
+            CHECK.due("at 1 / 2 after a put", x.signAt(0, 1), -1);
+        }
+    }
+
     private static void commonNone() {
         CHECK.sentence("14: How many roots both polynomials have in common (0)");
         int[][] pairs = {{5}, {-1, 1}, {1, 0, 1}, {Desks.LOW}};
@@ -388,6 +430,20 @@ public final class EdgesElevenToFifteenTest {
         Desks.set(x, 0, -1, Desks.HIGH);
         Desks.set(x, 1, 1, Desks.LOW);
         CHECK.due("1 / (2^31 - 1) and 1 / 2^31", x.common(), 0);
+    }
+
+    private static void commonWithGaps() {
+        CHECK.sentence("14: How many roots both polynomials have in common (with gaps between the coefficients)");
+        // 1 is a root of all of these; the rests of the first ones, divided by the second, skip a degree.
+        int[][] zeros = {{-2, -2, 0, 0, 0, 3, 0, 0, 1}, {5, -3, 0, 0, 0, -3, 0, 0, 1}, {-8, 7, 0, 0, 0, 0, 0, 0, 1}};
+        int[][] ones = {{-8, 0, 0, 0, 1, 1, 2, 4}, {-2, 0, 0, 0, -5, 1, 2, 4}, {-6, 0, 0, -1, 0, 1, 2, 4}};
+        for (int[] zero : zeros) {
+            for (int[] one : ones) {
+                String name = java.util.Arrays.toString(zero) + " and " + java.util.Arrays.toString(one);
+                CHECK.due("common of " + name, Desks.both(zero, one).common(), 1);
+                CHECK.due("common of them, the other way", Desks.both(one, zero).common(), 1);
+            }
+        }
     }
 
     private static void outLowestFirst() {

@@ -25,6 +25,7 @@ public final class EdgesOneToFiveTest {
         repeatedOfPowers();
         repeatedCountsUnreal();
         repeatedLeavesNumbersOut();
+        repeatedWithGaps();
         CHECK.end("EdgesOneToFiveTest");
     }
 
@@ -297,5 +298,25 @@ public final class EdgesOneToFiveTest {
         CHECK.due("repeated of 8 x^2 - 16", x.repeated(0), 0);
         Desks.set(x, 0, 8, 16, 8);
         CHECK.due("repeated of 8 (x + 1)^2", x.repeated(0), 1);
+    }
+
+    private static void repeatedWithGaps() {
+        CHECK.sentence("5: The degree of its greatest common divisor (with gaps between the coefficients)");
+        // 1 is a root of each twice, and of the last one three times.
+        int[][] all = {
+            {30, -44, 7, 5, -2, 3, 0, 0, 1},
+            {15, -22, 6, -2, 2, 0, 0, 0, 1},
+            {7, -8, 0, 0, 0, 0, 0, 0, 1},
+            {-21, 48, -28, 0, 0, 0, 0, 0, 1},
+        };
+        int[] want = {1, 1, 1, 2};
+        for (int t = 0; t < all.length; t++) {
+            SturmDesk x = Desks.one(all[t]);
+            String name = java.util.Arrays.toString(all[t]);
+            CHECK.due("repeated of " + name, x.repeated(0), want[t]);
+            int i = x.between(0, Long.MIN_VALUE, 0, 1, 0) - 1;
+            CHECK.due("1 is a root of " + name, x.side(0, i, 1, 0), 0);
+            CHECK.due("multiple of 1 in " + name, x.multiple(0, i), want[t] + 1);
+        }
     }
 }

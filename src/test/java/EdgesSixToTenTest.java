@@ -18,6 +18,7 @@ public final class EdgesSixToTenTest {
         multipleFromOneToEight();
         multipleOfEach();
         multipleBesideUnreal();
+        multipleAfterFloors();
         sideBelow();
         sideIs();
         sideAbove();
@@ -25,6 +26,8 @@ public final class EdgesSixToTenTest {
         floorOfHalves();
         floorOfWholes();
         floorBesideWholes();
+        floorBesideDecimals();
+        floorBesideDecimalsFarDown();
         floorLeastDigits();
         floorMostTen();
         floorMostTwo();
@@ -190,6 +193,19 @@ public final class EdgesSixToTenTest {
         CHECK.due("multiple of 4 in (x - 4)^2 (x^2 + 1)^3", x.multiple(0, 0), 2);
     }
 
+    private static void multipleAfterFloors() {
+        CHECK.sentence("8: The multiplicity of root i. (whatever was asked before)");
+        for (int n = 0; n <= 12; n++) {
+            SturmDesk x = Desks.one(Desks.product(Desks.power(Desks.p(-1, 2), 2), Desks.power(Desks.p(5, 8), 3)));
+            for (int t = 0; t <= n; t++) {
+                x.floor(0, 0, false, t);
+                x.floor(0, 1, false, t);
+            }
+            CHECK.due("multiple of -5 / 8 after floors up to " + n, x.multiple(0, 0), 3);
+            CHECK.due("multiple of 1 / 2 after floors up to " + n, x.multiple(0, 1), 2);
+        }
+    }
+
     private static void sideBelow() {
         CHECK.sentence("9: -1 ..: root i lies below the point");
         SturmDesk x = Desks.one(-1, 3);
@@ -286,6 +302,37 @@ public final class EdgesSixToTenTest {
         Desks.set(x, 0, -100000001, 0, 100000000);
         CHECK.dueText("above 1, irrational", Desks.floor(x, 0, 1, true, 8), "100000000");
         CHECK.dueText("below -1, irrational", Desks.floor(x, 0, 0, true, 8), "-100000001");
+    }
+
+    private static void floorBesideDecimals() {
+        CHECK.sentence("10: not above .. root i times 10 to the n (just below, at and just above 3 / 10)");
+        int[] overs = {299999999, 300000000, 300000001};
+        String[] firsts = {"2", "3", "3"};
+        String[] below = {"-3", "-3", "-4"};
+        for (int t = 0; t < 3; t++) {
+            SturmDesk x = Desks.both(Desks.p(-overs[t], 1000000000), Desks.p(overs[t], 1000000000));
+            CHECK.dueText(overs[t] + " / 10^9, n 1", Desks.floor(x, 0, 0, true, 1), firsts[t]);
+            CHECK.dueText(overs[t] + " / 10^9, n 9", Desks.floor(x, 0, 0, true, 9), "" + overs[t]);
+            CHECK.dueText("-" + overs[t] + " / 10^9, n 1", Desks.floor(x, 1, 0, true, 1), below[t]);
+            CHECK.dueText("-" + overs[t] + " / 10^9, n 9", Desks.floor(x, 1, 0, true, 9), "-" + overs[t]);
+        }
+        SturmDesk x = Desks.both(Desks.p(-89999999, 0, 1000000000), Desks.p(-90000001, 0, 1000000000));
+        CHECK.dueText("irrational, just below 3 / 10", Desks.floor(x, 0, 1, true, 1), "2");
+        CHECK.dueText("irrational, just above -3 / 10", Desks.floor(x, 0, 0, true, 1), "-3");
+        CHECK.dueText("irrational, just above 3 / 10", Desks.floor(x, 1, 1, true, 1), "3");
+        CHECK.dueText("irrational, just below -3 / 10", Desks.floor(x, 1, 0, true, 1), "-4");
+    }
+
+    private static void floorBesideDecimalsFarDown() {
+        CHECK.sentence("10: not above .. root i times 10 to the n (7 / 10^21 below and above 1 / 10^4)");
+        // x^8 - 2 (10^4 x - 1)^2
+        for (int n = 4; n <= 20; n++) {
+            SturmDesk x = Desks.one(-2, 40000, -200000000, 0, 0, 0, 0, 0, 1);
+            BigInteger whole = BigInteger.TEN.pow(n - 4);
+            String below = whole.subtract(BigInteger.ONE).toString();
+            CHECK.dueText("root 1, n " + n, Desks.floor(x, 0, 1, true, n), below);
+            CHECK.dueText("root 2, n " + n, Desks.floor(x, 0, 2, true, n), whole.toString());
+        }
     }
 
     private static void floorLeastDigits() {

@@ -4,7 +4,7 @@ import java.util.Random;
 
 /** Runs of calls on many kinds of polynomials, each answer compared with the oracle's. */
 public final class OracleTest {
-    private static final int KINDS = 10;
+    private static final int KINDS = 13;
     private static final int MOST_CALLS = 512;
     private static final Check CHECK = new Check();
 
@@ -36,6 +36,10 @@ public final class OracleTest {
     private static void choose(int kind) {
         int[] zero = some(kind % KINDS);
         int[] one = random.nextInt(3) > 0 ? related(zero) : some(random.nextInt(KINDS));
+        if (kind % KINDS == KINDS - 1) {
+            one = small(1);
+            zero = builtUpon(one);
+        }
         boolean swap = random.nextBoolean();
         load(swap ? 1 : 0, zero);
         load(swap ? 0 : 1, one);
@@ -76,6 +80,8 @@ public final class OracleTest {
             case 6: return ends();
             case 7: return oneRoot();
             case 8: return closest();
+            case 9: return gapped();
+            case 10: return dyadic();
             default: return powers();
         }
     }
@@ -161,6 +167,75 @@ public final class OracleTest {
             }
         }
         return c;
+    }
+
+    /** Coefficients that are 0 below the highest, and 1 or -1 a double root: chains that skip degrees. */
+    private static int[] gapped() {
+        int at = random.nextBoolean() ? 1 : -1;
+        int bits = random.nextBoolean() ? 4 : 26;
+        int[] c = new int[9];
+        int d = 3 + random.nextInt(6);
+        c[d] = any(bits);
+        for (int k = 2 + random.nextInt(d - 2); k >= 2; k--) {
+            c[k] = c[k] == 0 ? any(bits) : c[k];
+        }
+        int value = 0;
+        int slope = 0;
+        for (int k = 2; k < 9; k++) {
+            int now = k % 2 == 0 ? 1 : at;
+            value += c[k] * now;
+            slope += c[k] * k * now * at;
+        }
+        c[1] = -slope;
+        c[0] = slope * at - value;
+        return c;
+    }
+
+    /** A few roots that are dyadic, some of them more than once. */
+    private static int[] dyadic() {
+        int[] all = {1, 0, 0, 0, 0, 0, 0, 0, 0};
+        for (int t = 1 + random.nextInt(4); t > 0; t--) {
+            int[] factor = new int[9];
+            factor[0] = any(6);
+            factor[1] = 1 << random.nextInt(7);
+            for (int again = random.nextInt(2); again >= 0; again--) {
+                int[] next = times(all, factor);
+                all = next == null ? all : next;
+            }
+        }
+        return all;
+    }
+
+    /** Coefficients of at most the degree, small ones; never all 0. */
+    private static int[] small(int most) {
+        int[] c = new int[9];
+        for (int k = 0; k < most; k++) {
+            c[k] = random.nextInt(7) - 3;
+        }
+        c[most] = 1 + random.nextInt(5);
+        return c;
+    }
+
+    /**
+     * Divisions with a rest, backwards, from a common factor: the given one becomes the lower of the
+     * last two. Quotients of a degree above 1 make chains that skip degrees in their middle.
+     */
+    private static int[] builtUpon(int[] one) {
+        int[] low = one.clone();
+        int[] high = times(low, small(random.nextInt(2)));
+        for (int t = 0; t < 8; t++) {
+            int[] next = times(high, small(1 + random.nextInt(3)));
+            if (next == null) {
+                continue;
+            }
+            for (int k = 0; k < 9; k++) {
+                next[k] += low[k];
+            }
+            low = high;
+            high = next;
+        }
+        System.arraycopy(low, 0, one, 0, 9);
+        return high;
     }
 
     private static int[] ends() {
@@ -269,8 +344,9 @@ public final class OracleTest {
     }
 
     private static void compareRoot(int p, int i, Oracle o) {
-        // Seven answers, and five floors with the bytes of at most 101 each.
-        spend(7 + 5 * 14);
+        int few = random.nextInt(10);
+        // Seven answers, a few floors, and five floors with the bytes of at most 101 each.
+        spend(7 + few + 5 * 14);
         CHECK.due("multiple(" + p + ", " + i + ")", x.multiple(p, i), o.multiple(i));
         int e = random.nextInt(63);
         BigInteger near = o.floor(i, false, e);
@@ -279,6 +355,10 @@ public final class OracleTest {
                 CHECK.due("side(" + p + ", " + i + ", " + a + ", " + e + ")", x.side(p, i, a, e), o.side(i, a, e));
                 CHECK.due("sign(" + p + ", " + a + ", " + e + ")", x.sign(p, a, e), o.sign(a, e));
             }
+        }
+        // Step by step, too, as a root may be met exactly on the way.
+        for (int n = 0; n < few; n++) {
+            x.floor(p, i, false, n);
         }
         compareFloor(p, i, true, random.nextInt(91), o);
         compareFloor(p, i, false, random.nextInt(301), o);
