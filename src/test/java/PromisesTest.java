@@ -28,6 +28,7 @@ public final class PromisesTest {
         out();
         throwsChangeNothing();
         samePolynomialAgain();
+        exampleOfReadme();
         CHECK.end("PromisesTest");
     }
 
@@ -473,5 +474,21 @@ public final class PromisesTest {
     private static String digitsOfRoot(int whole) {
         return java.math.BigInteger.valueOf(whole)
                 .multiply(java.math.BigInteger.TEN.pow(180)).sqrt().toString();
+    }
+
+    /** The example in README.md, so that what it says stays true. */
+    private static void exampleOfReadme() {
+        SturmDesk desk = new SturmDesk();
+        desk.put(0, 2, 1);
+        desk.put(0, 0, -2);
+        CHECK.due("README: roots", desk.roots(0), 2);
+        CHECK.due("README: floor", desk.floor(0, 1, true, 20), 21);
+        CHECK.dueText("README: OUT", Desks.out(desk), "141421356237309504880");
+        CHECK.due("README: out", desk.out(0), Desks.eight("14142135", 0));
+        CHECK.due("README: side", desk.side(0, 1, 3, 1), -1);
+        desk.put(1, 1, 5);
+        desk.put(1, 0, -7);
+        CHECK.due("README: order", desk.order(1, 0), 1);
+        CHECK.due("README: signAt", desk.signAt(0, 1), 1);
     }
 }
